@@ -6,6 +6,8 @@ public final class AccountsTest {
         undoing();
         undoingEachKind();
         snapshots();
+        ticketsMadeAgain();
+        fullBank();
         Checks.end("AccountsTest");
     }
 
@@ -164,5 +166,104 @@ public final class AccountsTest {
         Checks.same("one change", x.account(15), 1);
         x.undo();
         Checks.same("back to the snapshot", Checks.stateOf(x), later);
+    }
+
+    private static void ticketsMadeAgain() {
+        Checks.promise(31);
+        CoatPledges x = new CoatPledges();
+        x.save();
+        x.pledge(5, 500, 300);
+        x.pass(1);
+        x.pay(0, 3);
+        x.pass(8);
+        x.pass(3);
+        x.sell(0, 9999);
+        x.restore();
+        Checks.same("nothing of it stays", Checks.stateOf(x), Checks.stateOf(new CoatPledges()));
+        x.pledge(1, 100, 60);
+        CoatPledges y = new CoatPledges();
+        y.pledge(1, 100, 60);
+        Checks.same("the ticket begins from anew", Checks.stateOf(x), Checks.stateOf(y));
+        x.pass(9);
+        x.restore();
+        x.pledge(1, 100, 60);
+        Checks.same("without the reserve of a lot", Checks.stateOf(x), Checks.stateOf(y));
+        Checks.promise(33);
+        x.pass(9);
+        x.sell(0, 200);
+        x.save();
+        String saved = Checks.stateOf(x);
+        x.undo();
+        x.undo();
+        x.undo();
+        x.fee(11);
+        x.pledge(2, 700, 400);
+        x.pass(9);
+        x.restore();
+        Checks.same("the pledge of the snapshot", Checks.stateOf(x), saved);
+        Checks.same("its loan", x.account(6), 60);
+        CoatPledges z = new CoatPledges();
+        z.pledge(0, 200, 120);
+        z.pass(9);
+        z.save();
+        z.undo();
+        z.undo();
+        z.pledge(0, 999, 500);
+        z.pass(10);
+        z.restore();
+        Checks.same("what was owed as it became a lot", z.sell(0, 200), 48);
+    }
+
+    private static void fullBank() {
+        CoatPledges x = new CoatPledges();
+        for (int n = 0; n < 16; n++) {
+            x.pledge(n % 6, 200, 120 - n);
+        }
+        Checks.promise(29);
+        Checks.same("mean of 16", x.meanLoan(), 112.5);
+        Checks.promise(19);
+        Checks.same("owed by owner 0", x.ownerOf(0, 1), 120 + 114 + 108);
+        Checks.same("owed by owner 3", x.ownerOf(3, 1), 117 + 111 + 105);
+        Checks.promise(16);
+        Checks.same("in 20 weeks", x.willBeLots(20), 16);
+        Checks.promise(17);
+        Checks.same("in 20 weeks again", x.willBeLotsAgain(20), 16);
+        Checks.promise(21);
+        Checks.same("well", x.isWell(), true);
+        Checks.promise(28);
+        Checks.same("loans", x.account(6), 1800);
+        x.pass(1);
+        x.redeem(0);
+        x.pay(1, 2);
+        Checks.same("paid on the first", x.account(7), 125);
+        Checks.promise(29);
+        Checks.same("mean of 15 without the first", x.meanLoan(), 1680.0 / 15.0);
+        Checks.promise(5);
+        Checks.same("all but what is redeemed", x.pass(8), 15);
+        Checks.promise(12);
+        Checks.same("the last place", x.lotAt(14), 15);
+        Checks.fails("no place 15", Checks.MISSING, () -> x.lotAt(15));
+        Checks.promise(13);
+        Checks.same("the first rank", x.ranked(0), 2);
+        Checks.fails("no rank 15", Checks.MISSING, () -> x.ranked(15));
+        Checks.promise(28);
+        x.pass(2);
+        int reserve = x.pledgeOf(1, 7);
+        int lost = 119 + 3 * 9 - 2 + 5 - reserve;
+        x.sell(1, reserve);
+        Checks.same("losses", x.account(11), lost);
+        x.sell(6, 500);
+        Checks.same("left over for owner 0", x.account(10), 500 - 114 - 27 - 5);
+        x.claim(0);
+        Checks.same("claimed by owner 0", x.account(9), 354);
+        Checks.same("prices", x.account(8), 500 + reserve);
+        Checks.promise(20);
+        Checks.same("two ways", x.cash(true), x.cash(false));
+        Checks.promise(22);
+        Checks.same("the longest ticket", Checks.lineOf(x, 15), "#15 200/105+27 l");
+        Checks.promise(2);
+        Checks.fails("a refusal in a full bank", Checks.REFUSED, () -> x.pledge(0, 10, 1));
+        Checks.promise(6);
+        Checks.fails("no ticket 16", Checks.MISSING, () -> x.redeem(16));
     }
 }

@@ -95,6 +95,14 @@ public final class PledgesTest {
         Checks.same("50 at 1, rounded up", x.pledgeOf(1, 3), 1);
         x.renew(0);
         Checks.same("to renew changes no rate", x.pledgeOf(0, 6), 20);
+        int[][] interest = {{7, 143, 2}, {10, 100, 1}, {11, 91, 2}, {60, 599, 36}, {50, 500, 25}, {1, 1, 1}, {37, 270, 10}};
+        for (int[] row : interest) {
+            CoatPledges y = new CoatPledges();
+            y.rate(row[0]);
+            y.pledge(0, 999, row[1]);
+            y.pass(1);
+            Checks.same("interest of " + row[1] + " at " + row[0], y.pledgeOf(0, 3), row[2]);
+        }
     }
 
     private static void fees() {
@@ -165,7 +173,7 @@ public final class PledgesTest {
         Checks.refused("again", x, 4, 2, () -> x.redeem(0));
         Checks.fails("no ticket", Checks.MISSING, () -> x.redeem(3));
         Checks.fails("ticket -1", Checks.MISSING, () -> x.redeem(-1));
-        x.pass(7);
+        Checks.same("what is redeemed becomes no lot", x.pass(7), 2);
         Checks.same("redeemed for good", x.pledgeOf(0, 4), 2);
         Checks.same("no interest any more", x.pledgeOf(0, 3), 0);
         Checks.refused("a lot", x, 4, 1, () -> x.redeem(1));

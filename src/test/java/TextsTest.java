@@ -69,6 +69,9 @@ public final class TextsTest {
         }
         StringBuilder whole = new StringBuilder("w1;w1;w1;w1;w1;w1;w1;w1;w1;w1;w1;w1;w1;w1;w1;w1;w1;w1;w1;w1");
         Checks.error(whole.append(';').toString(), 60);
+        String nineteen = whole.substring(0, 57);
+        Checks.error(nineteen + "y01", 60);
+        Checks.error(nineteen + "p0x", 59);
         CoatPledges x = new CoatPledges();
         Checks.same("at first", x.errorPosition(), -1);
         Checks.type(x, "w1;q");
@@ -81,6 +84,11 @@ public final class TextsTest {
         Checks.fails("an empty text", Checks.ARGUMENT, x::run);
         x.undo();
         Checks.same("not undone", x.errorPosition(), 0);
+        Checks.type(x, "y0=5");
+        Checks.fails("no such ticket", Checks.REFUSED, x::run);
+        Checks.type(x, "y0");
+        Checks.fails("too early", Checks.ARGUMENT, x::run);
+        Checks.same("a longer text before does not continue it", x.errorPosition(), 2);
     }
 
     private static void refusedTexts() {
