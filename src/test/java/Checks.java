@@ -6,6 +6,10 @@ final class Checks {
         Object make();
     }
 
+    interface Numbered {
+        Object make(int number);
+    }
+
     static final Class<?> BOUNDS = IndexOutOfBoundsException.class;
     static final Class<?> ARGUMENT = IllegalArgumentException.class;
     static final Class<?> STATE = IllegalStateException.class;
@@ -16,27 +20,49 @@ final class Checks {
     private static int made = 0;
     private static int wrong = 0;
     private static int promise = 0;
+    private static String sentence = "";
 
     static void promise(int number) {
         promise = number;
+        sentence = "";
+    }
+
+    /** The sentence of the document whose edges the checks behind this try. */
+    static void sentence(String text) {
+        sentence = ", " + text;
     }
 
     static void same(String what, Object got, Object want) {
         made++;
         if (!want.equals(got)) {
             wrong++;
-            System.out.println("promise " + promise + ": " + what + " answered " + got + ", due is " + want);
+            System.out.println("promise " + promise + sentence + ": " + what + " answered " + got + ", due is " + want);
         }
     }
 
     static void fails(String what, Class<?> due, Call call) {
-        Object got;
+        same(what, outcome(call), due);
+    }
+
+    /** What the call answers, or the class of the exception that it throws. */
+    static Object outcome(Call call) {
         try {
-            got = call.make();
+            return call.make();
         } catch (RuntimeException e) {
-            got = e.getClass();
+            return e.getClass();
         }
-        same(what, got, due);
+    }
+
+    /** Numbers outside the range throw, those inside do not throw that; the call takes a new object each time. */
+    static void range(String what, Class<?> outside, int least, int most, Numbered call) {
+        for (int number = least; number <= most; number++) {
+            int inside = number;
+            same(what + " " + number + " is out of range", outside.equals(outcome(() -> call.make(inside))), false);
+        }
+        for (int number : new int[] {least - 1, most + 1, -least - 2, -most - 1, least - 256, most + 65536,
+            Integer.MIN_VALUE, Integer.MAX_VALUE}) {
+            fails(what + " " + number, outside, () -> call.make(number));
+        }
     }
 
     /** The call is refused for the reason with the detail, and the reason has no cause. */

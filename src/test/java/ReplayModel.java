@@ -274,7 +274,7 @@ final class ReplayModel {
         return parts.length;
     }
 
-    private static int errorOf(String text) {
+    static int errorOf(String text) {
         for (int n = 1; n <= text.length(); n++) {
             Matcher matcher = TEXT.matcher(text.substring(0, n));
             if (!matcher.matches() && !matcher.hitEnd()) return n - 1;

@@ -1,8 +1,16 @@
 import java.util.Random;
 
-/** Long runs of calls against ReplayModel; the seeds are fixed, so each run of this test makes the same calls. */
+/**
+ * Long runs of calls against ReplayModel; the seeds are fixed, so each run of this test makes the same calls. No
+ * object is used for more than the 512 calls for which the document speaks.
+ */
 public final class ReplayTest {
-    private static final int RUNS = 1500;
+    private static final int RUNS = 2500;
+    private static final int MOST_CALLS = 512;
+    // A text is at most 60 calls of append and 6 more; the last answers, of a full bank, are some 270.
+    private static final int CALLS_OF_A_TEXT = 66;
+    private static final int CALLS_OF_THE_ACCOUNTS = 19;
+    private static final int CALLS_OF_ALL = 290;
     private static final String[] CALLS = {"pledge", "pledge", "pledge", "pledge", "rate", "fee", "pass", "pass", "pass",
         "redeem", "pay", "pay", "renew", "renew", "pledgeOf", "pledgeOf", "sell", "sell", "sell", "claim", "claim",
         "lotAt", "ranked", "quote", "quoteAgain", "willBeLots", "willBeLotsAgain", "willReserve", "ownerOf", "ownerOf",
@@ -15,6 +23,7 @@ public final class ReplayTest {
     private final CoatPledges x = new CoatPledges();
     private final ReplayModel model = new ReplayModel();
     private final String name;
+    private int calls = 0;
 
     private ReplayTest(int seed) {
         random = new Random(seed);
@@ -29,8 +38,8 @@ public final class ReplayTest {
     }
 
     private void go() {
-        int calls = 40 + random.nextInt(400);
-        for (int n = 0; n < calls; n++) {
+        int most = random.nextInt(2) == 0 ? MOST_CALLS - CALLS_OF_ALL : MOST_CALLS - CALLS_OF_THE_ACCOUNTS;
+        while (calls < most - CALLS_OF_A_TEXT - 4) {
             String call = CALLS[random.nextInt(CALLS.length)];
             if (call.equals("text")) {
                 enterText();
@@ -38,12 +47,42 @@ public final class ReplayTest {
                 answer(call, argument(call, 0), argument(call, 1), argument(call, 2));
             }
         }
+        answerAccounts();
+        if (calls + CALLS_OF_ALL - CALLS_OF_THE_ACCOUNTS <= MOST_CALLS) {
+            answerAll();
+        }
+        Checks.same(name + ": calls beyond the 512th", calls > MOST_CALLS, false);
+    }
+
+    private void answerAccounts() {
         for (int what = 0; what <= 15; what++) {
             answer("account", what, 0, 0);
         }
         answer("cash", 0, 0, 0);
         answer("cash", 1, 0, 0);
         answer("isWell", 0, 0, 0);
+    }
+
+    private void answerAll() {
+        int pledges = x.account(1);
+        int lots = x.account(3);
+        calls += 2;
+        for (int ticket = 0; ticket < pledges; ticket++) {
+            for (int what = 0; what <= 8; what++) {
+                answer("pledgeOf", ticket, what, 0);
+            }
+        }
+        for (int owner = 0; owner < 6; owner++) {
+            for (int what = 0; what <= 6; what++) {
+                answer("ownerOf", owner, what, 0);
+            }
+        }
+        for (int place = 0; place < lots; place++) {
+            answer("lotAt", place, 0, 0);
+            answer("ranked", place, 0, 0);
+        }
+        answer("restore", 0, 0, 0);
+        answerAccounts();
     }
 
     private void enterText() {
@@ -59,22 +98,10 @@ public final class ReplayTest {
     }
 
     private void answer(String call, int a, int b, int c) {
-        Object due = outcome(() -> model.due(call, a, b, c));
-        boolean isFailing = due instanceof Class;
-        String before = isFailing ? Checks.stateOf(x) : "";
-        Object got = outcome(() -> made(call, a, b, c));
+        Object due = Checks.outcome(() -> model.due(call, a, b, c));
+        calls++;
+        Object got = Checks.outcome(() -> made(call, a, b, c));
         Checks.same(name + ": " + call + "(" + a + ", " + b + ", " + c + ")", got, due);
-        if (isFailing) {
-            Checks.same(name + ": state behind the failing " + call, Checks.stateOf(x), before);
-        }
-    }
-
-    private static Object outcome(Checks.Call call) {
-        try {
-            return call.make();
-        } catch (RuntimeException e) {
-            return e.getClass();
-        }
     }
 
     private Object made(String call, int a, int b, int c) {
@@ -153,8 +180,14 @@ public final class ReplayTest {
             case "lotAt":
             case "ranked": return random.nextInt(5);
             case "character": return random.nextInt(18);
-            default: return x.account(1) == 0 ? 0 : random.nextInt(x.account(1));
+            default: return aTicket();
         }
+    }
+
+    private int aTicket() {
+        calls++;
+        int made = x.account(1);
+        return made == 0 ? 0 : random.nextInt(made);
     }
 
     private String text() {
