@@ -16,6 +16,7 @@ public final class EdgesOfAccountsTest {
         whatIsNoChange();
         textsAreOneChange();
         undoneInTurn();
+        ticketsMadeAgain();
         weekOfTheSnapshot();
         noSnapshot();
         inPlaceOfAnEarlier();
@@ -277,6 +278,43 @@ public final class EdgesOfAccountsTest {
                 Checks.same(undone + " made again", x.account(15), most);
             }
         }
+    }
+
+    private static void ticketsMadeAgain() {
+        String due = Checks.stateOf(Banks.running(50));
+        CoatPledges x = new CoatPledges();
+        x.save();
+        x.rate(60);
+        x.fee(20);
+        x.pledge(5, 500, 300);
+        x.pass(1);
+        x.pay(0, 30);
+        x.pass(8);
+        x.sell(0, 9999);
+        for (int n = 0; n < 7; n++) {
+            x.undo();
+        }
+        x.pledge(0, 999, 50);
+        Checks.promise(31);
+        Checks.sentence("Undoes the latest change");
+        Checks.same("nothing of the pledge that was undone stays", Checks.stateOf(x), due);
+        CoatPledges y = new CoatPledges();
+        y.save();
+        Banks.goOn(y, 0, Banks.STORY.length);
+        y.pass(9);
+        y.restore();
+        y.pledge(0, 999, 50);
+        Checks.promise(33);
+        Checks.sentence("Makes everything that changes can change as it is in the snapshot");
+        Checks.same("nor of those that are not in the snapshot", Checks.stateOf(y), due);
+        y.restore();
+        y.pledge(3, 500, 300);
+        y.pass(1);
+        y.pay(0, 30);
+        y.pass(8);
+        y.restore();
+        y.pledge(0, 999, 50);
+        Checks.same("nor of a lot", Checks.stateOf(y), due);
     }
 
     private static void weekOfTheSnapshot() {

@@ -167,6 +167,8 @@ public final class EdgesOfLotsTest {
         x.sell(1, 100);
         Checks.refused("not what is another's", x, 9, 3, () -> x.claim(0));
         Checks.refused("nor by what another sold", x, 9, 0, () -> x.claim(2));
+        CoatPledges full = Banks.full();
+        Checks.refused("no cash, but nothing is left over either", full, 9, 0, () -> full.claim(0));
     }
 
     private static void lastCoins() {
@@ -191,7 +193,7 @@ public final class EdgesOfLotsTest {
     private static void keptUntilClaimed() {
         Checks.promise(11);
         Checks.sentence("What is left over for an owner is kept until the owner claims it");
-        CoatPledges x = lots(8);
+        CoatPledges x = lots(13);
         x.sell(0, 100);
         x.pass(20);
         x.sell(6, 50);
@@ -204,7 +206,12 @@ public final class EdgesOfLotsTest {
         x.sell(1, 40);
         x.claim(1);
         Checks.same("of another owner", x.ownerOf(1, 6), 20);
-        Checks.same("the cash", x.cash(false), 2000 - 48 + 100 + 50 - 110 + 40 - 20);
+        Checks.same("the cash", x.cash(false), 2000 - 78 + 100 + 50 - 110 + 40 - 20);
+        x.sell(12, 25);
+        Checks.same("what is left over later", x.claim(0), 5);
+        Checks.same("claimed in all", x.ownerOf(0, 6), 115);
+        Checks.same("claimed by all owners", x.account(9), 135);
+        Checks.refused("all is claimed", x, 9, 3, () -> x.claim(0));
     }
 
     private static void places() {

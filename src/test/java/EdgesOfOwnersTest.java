@@ -42,12 +42,13 @@ public final class EdgesOfOwnersTest {
         x.pass(1);
         x.redeem(0);
         x.renew(1);
+        x.renew(4);
+        x.renew(6);
         x.pass(8);
         x.sell(2, 100);
         x.sell(3, 64);
-        x.pledgeOf(15, 0);
-        int[] ofFive = {1, 58, 2, 1, 2, 36, 0};
-        int[] ofOne = {0, 0, 2, 0, 0, 0, 0};
+        int[] ofFive = {2, 116, 1, 1, 2, 36, 0};
+        int[] ofOne = {1, 58, 1, 0, 0, 0, 0};
         for (int what = 0; what < 7; what++) {
             Checks.same("owner 5, " + what, x.ownerOf(5, what), ofFive[what]);
             Checks.same("owner 1, " + what, x.ownerOf(1, what), ofOne[what]);

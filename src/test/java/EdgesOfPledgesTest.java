@@ -302,6 +302,16 @@ public final class EdgesOfPledgesTest {
             x.pass(n);
             Checks.same("week behind " + n, x.account(0), n);
         }
+        CoatPledges late = new CoatPledges();
+        for (int n = 1; n <= 480; n++) {
+            late.pass(20);
+        }
+        late.pledge(0, 999, 300);
+        Checks.same("a late term", late.pledgeOf(0, 5), 9600);
+        Checks.same("a late quote", late.quote(0, 8), 348);
+        Checks.same("eight weeks of it", late.pass(8), 0);
+        Checks.same("the ninth", late.pass(1), 1);
+        Checks.same("a late week", late.account(0), 9609);
     }
 
     private static void weekByWeek() {
