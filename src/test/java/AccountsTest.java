@@ -6,6 +6,7 @@ public final class AccountsTest {
         undoing();
         undoingEachKind();
         snapshots();
+        laterSnapshots();
         ticketsMadeAgain();
         fullBank();
         Checks.end("AccountsTest");
@@ -101,8 +102,7 @@ public final class AccountsTest {
         Checks.same("nor is what tells or saves", x.account(15), 0);
     }
 
-    private static void undoingEachKind() {
-        Checks.promise(31);
+    private static CoatPledges withOneOfEach() {
         CoatPledges x = new CoatPledges();
         x.pledge(0, 200, 120);
         x.pledge(1, 200, 120);
@@ -111,20 +111,29 @@ public final class AccountsTest {
         x.sell(0, 500);
         x.pledge(3, 200, 120);
         x.pass(1);
-        String before = Checks.stateOf(x);
-        Checks.Call[] changes = {() -> x.pledge(0, 10, 6), () -> x.rate(7), () -> x.fee(7), () -> x.pass(20),
-            () -> x.redeem(3), () -> x.pay(3, 10), () -> x.renew(3), () -> x.sell(1, 999), () -> x.claim(0)};
+        return x;
+    }
+
+    private static void undoingEachKind() {
+        Checks.promise(31);
+        Banks.Change[] changes = {x -> x.pledge(0, 10, 6), x -> x.rate(7), x -> x.fee(7), x -> x.pass(20),
+            x -> x.redeem(3), x -> x.pay(3, 10), x -> x.renew(3), x -> x.sell(1, 999), x -> x.claim(0),
+            x -> Banks.run(x, "w7;s2=999;p5=100/60;c2;n3;y3=5;r3")};
         for (int n = 0; n < changes.length; n++) {
-            changes[n].make();
+            CoatPledges x = withOneOfEach();
+            String before = Checks.stateOf(x);
+            changes[n].make(x);
             Checks.same("change " + n + " changes", Checks.stateOf(x).equals(before), false);
             x.undo();
             Checks.same("undone " + n, Checks.stateOf(x), before);
         }
-        Checks.type(x, "w7;s2=999;p5=100/60;c2;n3;y3=5;r3");
-        x.run();
-        Checks.same("text changes", Checks.stateOf(x).equals(before), false);
-        x.undo();
-        Checks.same("undone text", Checks.stateOf(x), before);
+        CoatPledges y = withOneOfEach();
+        String before = Checks.stateOf(y);
+        for (Banks.Change change : changes) {
+            change.make(y);
+            y.undo();
+        }
+        Checks.same("undone one after the other", Checks.stateOf(y), before);
     }
 
     private static void snapshots() {
@@ -153,8 +162,16 @@ public final class AccountsTest {
         x.pass(5);
         Checks.same("the snapshot stays", x.restore(), 3);
         Checks.same("all as it was again", Checks.stateOf(x), saved);
-        x.pass(1);
+    }
+
+    private static void laterSnapshots() {
         Checks.promise(32);
+        CoatPledges x = new CoatPledges();
+        x.pledge(0, 200, 120);
+        x.pass(3);
+        x.save();
+        String saved = Checks.stateOf(x);
+        x.pass(1);
         Checks.same("in place of the earlier one", x.save(), 4);
         String later = Checks.stateOf(x);
         x.undo();

@@ -22,7 +22,7 @@ final class Banks {
         return x;
     }
 
-    private static int run(CoatPledges x, String text) {
+    static int run(CoatPledges x, String text) {
         Checks.type(x, text);
         return x.run();
     }

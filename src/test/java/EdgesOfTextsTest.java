@@ -307,16 +307,17 @@ public final class EdgesOfTextsTest {
     private static void numbersOutOfRange() {
         Checks.promise(27);
         Checks.sentence("or 0, with the detail 0, if it would throw another exception");
-        CoatPledges x = Banks.running(60);
-        Checks.textRefused(x, "r0;r0", 1, 4, 2);
+        String before = Checks.stateOf(Banks.running(60));
         String[] all = {"p6=10/6", "p9=10/6", "p0=0/1", "p0=000/001", "p0=10/0", "p0=10/000", "w0", "w00", "w21",
             "w99", "r1", "r01", "r16", "r99", "y1=1", "y0=0", "y0=000", "y99=0", "n1", "n99", "s1=1", "s0=0",
             "s0=0000", "s99=0", "c6", "c9"};
         for (String text : all) {
+            CoatPledges x = Banks.running(60);
+            Checks.textRefused(x, "r0;r0", 1, 4, 2);
             Checks.textRefused(x, text, 0, 0, 0);
             Checks.textRefused(x, "w1;" + text, 1, 0, 0);
+            Checks.same("state behind " + text, Checks.stateOf(x), before);
         }
-        Checks.same("nothing changed", Checks.stateOf(x), Checks.stateOf(Banks.running(60)));
     }
 
     private static void allOrNothing() {

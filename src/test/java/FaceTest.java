@@ -49,6 +49,9 @@ public final class FaceTest {
         TreeSet<String> names = new TreeSet<>();
         TreeSet<String> closed = new TreeSet<>();
         for (Method method : type.getDeclaredMethods()) {
+            if (method.isSynthetic()) {
+                continue;
+            }
             if (Modifier.isPrivate(method.getModifiers())) {
                 closed.add(method.getName());
             } else {
@@ -58,15 +61,13 @@ public final class FaceTest {
         }
         Checks.same("methods", open, new TreeSet<>(Arrays.asList(FACE)));
         for (Class<?> inside : type.getDeclaredClasses()) {
-            Checks.same("static: " + inside, Modifier.isStatic(inside.getModifiers()), true);
-            for (Method method : inside.getDeclaredMethods()) {
-                closed.add(method.getName());
-            }
+            boolean isOpen = Modifier.isPublic(inside.getModifiers()) || Modifier.isProtected(inside.getModifiers());
+            Checks.same("public or protected: " + inside, isOpen, false);
         }
         closed.retainAll(names);
-        Checks.same("inner names of the face", closed, new TreeSet<String>());
+        Checks.same("private methods with a name of the face", closed, new TreeSet<String>());
         for (Field field : type.getDeclaredFields()) {
-            Checks.same("private: " + field, Modifier.isPrivate(field.getModifiers()), true);
+            Checks.same("private: " + field, field.isSynthetic() || Modifier.isPrivate(field.getModifiers()), true);
         }
         Constructor<?>[] constructors = type.getDeclaredConstructors();
         Checks.same("constructors", constructors.length, 1);
