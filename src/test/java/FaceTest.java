@@ -73,6 +73,7 @@ public final class FaceTest {
         Checks.same("constructors", constructors.length, 1);
         Checks.same("public constructor", Modifier.isPublic(constructors[0].getModifiers()), true);
         Checks.same("without parameters", constructors[0].getParameterCount(), 0);
+        Checks.same("exceptions of the constructor", constructors[0].getExceptionTypes().length, 0);
         Checks.end("FaceTest");
     }
 
